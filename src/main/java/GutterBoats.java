@@ -167,7 +167,8 @@ public final class GutterBoats {
     public int hook(int o, int g, int c) throws IndexOutOfBoundsException {
         throwFor(now.hookFault(o, g, c));
         history.remember(now);
-        return now.putHook(o, g, c);
+        now.putHook(o, g, c);
+        return now.countClaimable(o);
     }
 
     public int claim(int o, int b) throws IndexOutOfBoundsException {
@@ -562,7 +563,11 @@ public final class GutterBoats {
                 case 'm':
                     return minutesFault(a) == FINE && passMinutes(a) >= 0;
                 case 'h':
-                    return hookFault(a, b, c) == FINE && putHook(a, b, c) >= 0;
+                    if (hookFault(a, b, c) != FINE) {
+                        return false;
+                    }
+                    putHook(a, b, c);
+                    return true;
                 case 'c':
                     return claimFault(a, b) == FINE && reasonAgainst(a, b) == 0 && takeWreck(a, b) >= 0;
                 case 's':
@@ -602,10 +607,9 @@ public final class GutterBoats {
             return wayByGutters(g, 0);
         }
 
-        int putHook(int o, int g, int c) {
+        void putHook(int o, int g, int c) {
             owners.put(o, HOOK_GUTTER, g);
             owners.put(o, HOOK_CELL, c);
-            return countClaimable(o);
         }
 
         int takeWreck(int o, int b) {
@@ -795,7 +799,7 @@ public final class GutterBoats {
             return Math.abs(owners.at(o, HOOK_CELL) - boats.at(b, CELL));
         }
 
-        private int countClaimable(int o) {
+        int countClaimable(int o) {
             int count = 0;
             for (int b = 0; b < boats.rows; b++) {
                 if (reasonAgainst(o, b) == 0) {

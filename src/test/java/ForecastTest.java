@@ -156,6 +156,14 @@ final class ForecastTest {
         Check.due("leastFolds(1, 0)", x.leastFolds(1, 0), 3);
     }
 
+    static void promise23_nineFoldsAreTriedToo() {
+        // Nine folds have ten minutes of 6 cells, eight have nine, seven have eight of 7 cells.
+        GutterBoats x = Check.loaded("Tg405000g205000g045100s03s14");
+        Check.due("way(1, 0)", x.way(1, 0, 0), 60);
+        Check.due("leastFolds(1, 0)", x.leastFolds(1, 0), 9);
+        Check.due("leastFolds(2, 0)", x.leastFolds(2, 0), NONE);
+    }
+
     static void promise23_noneArrivesWithoutACurrent() {
         GutterBoats x = Check.loaded("Tg100000");
         Check.due("leastFolds(0, 3)", x.leastFolds(0, 3), NONE);

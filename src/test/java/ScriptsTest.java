@@ -219,10 +219,11 @@ final class ScriptsTest {
         Check.due("points", answer / 100 % 100, 6);
     }
 
-    static void promise25_knownAnswers() {
-        GutterBoats x = new GutterBoats();
-        Check.due("simulate(0, 1)", x.simulate(0, 1), 0);
-        Check.due("simulate(Long.MIN_VALUE, 60) twice", x.simulate(Long.MIN_VALUE, 60), x.simulate(Long.MIN_VALUE, 60));
+    static void promise25_anySeedAndEachTimeTheSame() {
+        GutterBoats x = Check.loaded("Tg102000b300b311");
+        for (long seed : new long[] {Long.MIN_VALUE, -1, 0, 1, Long.MAX_VALUE}) {
+            Check.due("simulate(" + seed + ", 60) again", x.simulate(seed, 60), x.simulate(seed, 60));
+        }
     }
 
     static void promise25_pointsAreTakenModuloAHundred() {

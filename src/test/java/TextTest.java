@@ -150,6 +150,10 @@ final class TextTest {
         error("Tc0a", 3);
         error("Ts3", 2);
         error("Ts0-", 3);
+        error("Tg04000:", 7);
+        error("Th000:", 5);
+        error("Tm0:", 3);
+        error("Tm1/", 3);
     }
 
     static void promise04_aFullText() {
@@ -233,7 +237,7 @@ final class TextTest {
     }
 
     static void promise05_loadBeginsAnewAndForgets() {
-        GutterBoats x = Check.withText("Tg102000");
+        GutterBoats x = Check.withText("Tg102000b300");
         x.gutter(20, 1, 0, 0);
         x.boat(3, 1, 2);
         x.set(0, 2);
@@ -244,11 +248,11 @@ final class TextTest {
         x.save(0);
         x.save(1);
         Check.due("load()", x.load(), 0);
-        Check.same("the state", Check.told(x), Check.told(Check.loaded("Tg102000")));
+        Check.same("the state", Check.told(x), Check.told(Check.loaded("Tg102000b300")));
         Check.throwsIt(Check.NOT_NOW, x::undo);
         Check.throwsIt(Check.NOT_NOW, () -> x.restore(0));
         Check.throwsIt(Check.NOT_NOW, () -> x.restore(1));
-        Check.due("clearText()", x.clearText(), 8);
+        Check.due("clearText()", x.clearText(), 12);
     }
 
     static void promise05_loadTwiceIsTheSame() {
