@@ -933,7 +933,7 @@ public final class GutterBoats {
             position = 1;
             for (int i = 0; i < TEXT_LIMIT && position < length; i++) {
                 readCommand();
-                if (!tournament.perform(letter, numbers[0], numbers[1], numbers[2], numbers[3])) {
+                if (!tournament.perform(letter, numberAt(0), numberAt(1), numberAt(2), numberAt(3))) {
                     leftOut++;
                 }
             }
@@ -972,6 +972,10 @@ public final class GutterBoats {
                 position++;
             }
             return number;
+        }
+
+        private int numberAt(int i) {
+            return i >= 0 && i < numbers.length ? numbers[i] : 0;
         }
 
         private int atHand() {

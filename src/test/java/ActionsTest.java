@@ -7,9 +7,9 @@ final class ActionsTest {
 
     /** A call that throws changes nothing, and is no action. */
     private static void refused(GutterBoats x, Class<?> want, Check.Call call) {
-        String before = Check.told(x);
+        String before = Check.summary(x);
         Check.throwsIt(want, call);
-        Check.same("the state", Check.told(x), before);
+        Check.same("the state", Check.summary(x), before);
     }
 
     static void promise12_gutterAnswersItsNumber() {

@@ -86,6 +86,15 @@ final class Check {
         return s.toString();
     }
 
+    /** The numbers of about(), in one line: enough to see that something has changed, with few of the 512 calls. */
+    static String summary(GutterBoats x) {
+        StringBuilder s = new StringBuilder();
+        for (int what = 0; what <= 13; what++) {
+            s.append(x.about(what)).append(' ');
+        }
+        return s.toString();
+    }
+
     static void same(String what, String got, String want) {
         if (!got.equals(want)) {
             throw new Wrong(what + " told " + got + ", due is " + want);

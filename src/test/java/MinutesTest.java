@@ -272,28 +272,28 @@ final class MinutesTest {
         GutterBoats x = new GutterBoats();
         String[] told = new String[10];
         int n = 0;
-        told[n++] = Check.told(x);
+        told[n++] = Check.summary(x);
         x.gutter(4, 1, 0, 0);
-        told[n++] = Check.told(x);
+        told[n++] = Check.summary(x);
         x.boat(2, 1, 3);
-        told[n++] = Check.told(x);
+        told[n++] = Check.summary(x);
         x.launch(0, 0);
-        told[n++] = Check.told(x);
+        told[n++] = Check.summary(x);
         x.hook(2, 0, 3);
-        told[n++] = Check.told(x);
+        told[n++] = Check.summary(x);
         x.set(2, 7);
-        told[n++] = Check.told(x);
+        told[n++] = Check.summary(x);
         x.claim(2, 0);
-        told[n++] = Check.told(x);
+        told[n++] = Check.summary(x);
         x.minutes(9);
-        told[n++] = Check.told(x);
+        told[n++] = Check.summary(x);
         x.set(2, 7);
         for (int i = n - 1; i >= 0; i--) {
             Check.due("undo()", x.undo(), i);
-            Check.same("the state", Check.told(x), told[i]);
+            Check.same("the state", Check.summary(x), told[i]);
         }
         Check.throwsIt(Check.NOT_NOW, x::undo);
-        Check.same("the state", Check.told(x), told[0]);
+        Check.same("the state", Check.summary(x), told[0]);
     }
 
     static void promise19_fourteenStatesAreRemembered() {

@@ -6,9 +6,9 @@ final class ScriptsTest {
     }
 
     private static void script(GutterBoats x, int n, long script, int want) {
-        String before = Check.told(x);
+        String before = Check.summary(x);
         Check.due("runScript(" + n + ", " + script + ")", x.runScript(n, script), want);
-        Check.same("the state", Check.told(x), before);
+        Check.same("the state", Check.summary(x), before);
     }
 
     private static void succeeds(GutterBoats x, long... groups) {

@@ -52,7 +52,7 @@ final class WildCallsTest {
         long thread = Thread.currentThread().getId();
         x.winner();
         long before = bean.getThreadAllocatedBytes(thread);
-        for (int i = 0; i < 100; i++) {
+        for (int i = 0; i < 50; i++) {
             x.winner();
             x.leastFolds(1, 3);
             x.endsIn(0, 0);
@@ -63,8 +63,8 @@ final class WildCallsTest {
             x.save(0);
         }
         long bytes = bean.getThreadAllocatedBytes(thread) - before;
-        if (bytes > 100000) {
-            throw new Check.Wrong("800 calls took " + bytes + " bytes");
+        if (bytes > 50000) {
+            throw new Check.Wrong("400 calls took " + bytes + " bytes");
         }
     }
 }
