@@ -16,11 +16,10 @@ final class SlotEdgesTest {
         for (int slot = 0; slot <= 1; slot++) {
             GutterBoats x = new GutterBoats();
             int other = 1 - slot;
-            int filled = slot;
             Check.due("save", x.save(slot), 0);
             Check.due("restore", x.restore(slot), 0);
             Check.throwsIt(Check.NOT_NOW, () -> x.restore(other));
-            Check.due("restore", x.restore(filled), 0);
+            Check.due("restore", x.restore(slot), 0);
         }
     }
 
@@ -40,12 +39,11 @@ final class SlotEdgesTest {
     static void promise26_storesAllOfTheState() {
         for (int slot = 0; slot <= 1; slot++) {
             for (Fresh.Maker maker : Fresh.ALL) {
-                int here = slot;
                 GutterBoats x = maker.made();
                 x.save(slot);
                 x.minutes(60);
                 x.set(0, 3);
-                x.restore(here);
+                x.restore(slot);
                 Check.same("the state", Check.told(x), Check.told(maker.made()));
             }
         }
@@ -60,7 +58,7 @@ final class SlotEdgesTest {
 
     // save is no action, and changes neither the state, nor the text, nor what is remembered
     static void promise26_changesNothingButTheSlot() {
-        // The slot 1 of such an object has been saved with nothing but a minute behind it: the same once more.
+        // Saved once more the slot has the same state, so that nothing at all may be different.
         Fresh.Maker saved = () -> {
             GutterBoats x = Fresh.rich();
             x.save(0);
