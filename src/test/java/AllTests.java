@@ -5,13 +5,14 @@ import java.util.Arrays;
 import java.util.Comparator;
 import java.util.TreeSet;
 
-/** Runs every test method (promiseNN_.., terms_.. or ruleNN_..) of the test classes and counts them. */
+/** Runs every test method (promiseNN_.., terms_.., ruleNN_.. or readme_..) of the test classes and counts them. */
 public final class AllTests {
     private static final Class<?>[] CLASSES = {
         TextTest.class, NumbersTest.class, ActionsTest.class, MinutesTest.class, ForecastTest.class,
         ScriptsTest.class, SlotsTest.class, GutterEdgesTest.class, MinuteEdgesTest.class, HeatEdgesTest.class,
         TextEdgesTest.class, QuestionEdgesTest.class, ActionEdgesTest.class, ForecastEdgesTest.class,
-        ScriptEdgesTest.class, SlotEdgesTest.class, FaceTest.class, SourceTest.class, WildCallsTest.class, ModelTest.class,
+        ScriptEdgesTest.class, SlotEdgesTest.class, FaceTest.class, SourceTest.class, ReadmeTest.class,
+        WildCallsTest.class, ModelTest.class,
     };
 
     /** The path of the class's source, for the tests that read it. */
@@ -30,7 +31,7 @@ public final class AllTests {
             for (Method method : methods) {
                 String name = method.getName();
                 boolean isTest = Modifier.isStatic(method.getModifiers())
-                        && (name.startsWith("promise") || name.startsWith("terms_") || name.startsWith("rule"));
+                        && name.matches("(promise|terms_|rule|readme_).*");
                 if (!isTest) {
                     continue;
                 }
