@@ -30,17 +30,39 @@ final class SourceTest {
         without("->|::");
     }
 
+    static void rule03_noOtherTypes() throws IOException {
+        without("\\b(Object|Integer|Long|Boolean|Character|var|record|enum|interface)\\b");
+        without("\\bstatic final (?!int\\[\\] |int |long |class )");
+    }
+
+    static void rule04_noOtherLibrary() throws IOException {
+        without("\\bMath\\.(?!(abs|max|min)\\()\\w+");
+        without("\\bSystem\\.(?!arraycopy\\()\\w+");
+        without("\\b(?!Math|System)[A-Z]\\w*\\.\\w+");
+    }
+
     static void rule05_noOtherStaticState() throws IOException {
         without("static\\s*\\{");
         without("static (?!final )[\\w\\[\\]]+ \\w+\\s*[=;]");
+        without("\\b[A-Z_]+\\[[^\\]]*\\]\\s*[-+*/]?=(?!=)");
     }
 
     static void rule06_noCatchAtAll() throws IOException {
         without("\\b(try|catch|finally|synchronized|assert|instanceof)\\b");
         without("\"\\s*\\+|\\+\\s*\"");
+        without("\\bthrow (?!new (IndexOutOfBounds|IllegalArgument|IllegalState)Exception\\(\"[^\"]*\"\\);)");
     }
 
-    static void rule12_shortMethodsAndFewClasses() throws IOException {
+    static void rule09_eachLoopIsCounted() throws IOException {
+        without("\\b(while|do)\\b");
+        without("\\bfor \\((?!int \\w+ = [^;]+; [^;]+; [^;]+\\) \\{)");
+    }
+
+    static void rule11_atMostSevenParameters() throws IOException {
+        without("\\b(?!for|if|switch)\\w+\\((\\w+(\\[\\])? \\w+, ){7}");
+    }
+
+    static void rule11_shortMethodsAndFewClasses() throws IOException {
         int start = 0;
         int number = 0;
         int classes = 0;
